@@ -179,7 +179,8 @@ public final class BuckTables {
         return true;
     }
 
-    public boolean wish(int product, int day, long worth2) throws IndexOutOfBoundsException, IllegalArgumentException {
+    public boolean wish(int product, int day, long worth2)
+            throws IndexOutOfBoundsException, IllegalArgumentException {
         Product told = productAt(product);
         if (isOutside(day, DAYS - 1) || isOutside(worth2, MOST_WORTH)) {
             throw new IllegalArgumentException("day or worth2 is out of its range");
@@ -560,7 +561,7 @@ public final class BuckTables {
      * first one is the best.
      */
     private static final class Window {
-        final long[] ranks = new long[MOST_STEPS + 1];
+        final long[] ranks = new long[MOST_STEPS];
         int first = 0;
         int behind = 0;
 
@@ -574,7 +575,7 @@ public final class BuckTables {
             while (behind > first && ranks[behind - 1] < rank) {
                 behind--;
             }
-            if (behind <= MOST_STEPS) {
+            if (behind < ranks.length) {
                 ranks[behind] = rank;
                 behind++;
             }
@@ -770,7 +771,7 @@ public final class BuckTables {
 
         private int fuelRowSteps(int begin) {
             int end = begin + 1;
-            while (end % MOST_STEPS != 0 && fuel[end]) {
+            while (end < fuel.length && end % MOST_STEPS != 0 && fuel[end]) {
                 end++;
             }
             return end - begin;

@@ -279,6 +279,28 @@ public final class PlanTest {
         checks.due("not settled: greatest", false, x.greatest());
     }
 
+    /** Prices by round are 0 0, 1024 0, 512 512, 171 171, 171 0; the plans of rounds 4 and 5 are worth 450. */
+    private static void earliestOfSeveral() {
+        BuckTables x = stem(1, 3);
+        x.product(1, 2, 0, 0, 200);
+        x.product(1, 2, 0, 0, 50);
+        x.product(1, 1, 0, 0, 50);
+        x.limit(0, 1);
+        x.limit(1, 1);
+        checks.due("earliest: two rounds", 2, x.priced(2));
+        plan("the last round's, less what is too much", x, "0:0+2=1(100)", "0:2+1", 100);
+        checks.due("earliest: three rounds", 3, x.priced(3));
+        plan("the first in which limits hold", x, "0:0+1=2(50) 0:1+1=2(50) 0:2+1=2(50)", "", 150);
+        checks.due("earliest: price 1 of round 3", 512, x.price(1, 0));
+        checks.due("earliest: rounds", 5, x.priced(10));
+        plan("the earlier of two that are worth as much", x, "0:0+2=0(400) 0:2+1=2(50)", "", 450);
+        checks.due("earliest: price 0", 171, x.price(0, 0));
+        checks.due("earliest: price 1", 0, x.price(1, 0));
+        checks.due("earliest: logs of the plan, not of the last round", 0, x.price(1, 1));
+        checks.due("earliest: bound", 450, x.bound());
+        checks.due("earliest: greatest", true, x.greatest());
+    }
+
     private static void burntLogs() {
         BuckTables x = stem(1, 9);
         x.product(2, 2, 0, 0, 5);
@@ -437,6 +459,7 @@ public final class PlanTest {
         wishes();
         pricedRounds();
         pricesThatSettle();
+        earliestOfSeveral();
         burntLogs();
         wrongCalls();
         overrides();
