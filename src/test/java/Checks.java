@@ -1,3 +1,5 @@
+import java.util.function.Function;
+
 /** Counts the calls whose answer is not the one that is due. */
 final class Checks {
     interface Call {
@@ -49,6 +51,15 @@ final class Checks {
     static String outcome(Call act) {
         try {
             return String.valueOf(act.answer());
+        } catch (RuntimeException e) {
+            return "throws." + e.getClass().getSimpleName();
+        }
+    }
+
+    /** What a call on an object answers, or the exception's own class. */
+    static String outcome(BuckTables x, Function<BuckTables, Object> act) {
+        try {
+            return String.valueOf(act.apply(x));
         } catch (RuntimeException e) {
             return "throws." + e.getClass().getSimpleName();
         }

@@ -1,40 +1,17 @@
-import java.util.StringJoiner;
-
 /** Promises 12 to 20 and what a log may be: plans, small enough to be worked out by hand. */
 public final class PlanTest {
     private static final int NONE = BuckTables.NONE;
     private static final int FAR = 10000000;
     private static final int SIZE = 100000;
-    private static final Checks checks = new Checks();
+    private static final Edges edges = new Edges();
+    private static final Checks checks = edges.checks;
 
     private static BuckTables stem(int step, int length) {
-        BuckTables x = new BuckTables(step);
-        x.stem(0, 500, 0);
-        x.stem(length, 500, 0);
-        return x;
-    }
-
-    /** Logs as stem:first+steps=product(worth). */
-    private static String logs(BuckTables x) {
-        StringJoiner all = new StringJoiner(" ");
-        for (int k = 0; k < x.log(NONE, 0); k++) {
-            all.add(x.log(k, 0) + ":" + x.log(k, 1) + "+" + x.log(k, 2) + "=" + x.log(k, 3) + "(" + x.log(k, 4) + ")");
-        }
-        return all.toString();
-    }
-
-    private static String fuel(BuckTables x) {
-        StringJoiner all = new StringJoiner(" ");
-        for (int k = 0; k < x.fuel(NONE, 0); k++) {
-            all.add(x.fuel(k, 0) + ":" + x.fuel(k, 1) + "+" + x.fuel(k, 2));
-        }
-        return all.toString();
+        return Samples.length(step, length);
     }
 
     private static void plan(String name, BuckTables x, String logs, String fuel, long worth) {
-        checks.due(name + ": logs", logs, logs(x));
-        checks.due(name + ": fuel", fuel, fuel(x));
-        checks.due(name + ": worth", worth, x.worth());
+        edges.plan(name, x, logs, fuel, worth);
     }
 
     private static void planOfRun(String name, BuckTables x, String logs, String fuel, long worth) {
@@ -333,46 +310,6 @@ public final class PlanTest {
         plan("fuel rows are of one stem", y, "0:0+1=0(1)", "0:1+1 1:0+2", 1);
     }
 
-    private static void wrongCalls() {
-        BuckTables x = twoKinds();
-        for (int rounds : new int[] {0, -1, 11, Integer.MIN_VALUE, Integer.MAX_VALUE}) {
-            checks.fails("priced " + rounds, Checks.ARGUMENT, () -> x.priced(rounds));
-        }
-        checks.fails("worth without a plan", Checks.STATE, x::worth);
-        checks.fails("bound without a plan", Checks.STATE, x::bound);
-        checks.failsToo("greatest without a plan", Checks.STATE, x::greatest);
-        checks.fails("log without a plan", Checks.STATE, () -> x.log(99, 99));
-        checks.fails("fuel without a plan", Checks.STATE, () -> x.fuel(99, 99));
-        checks.fails("price without a plan", Checks.STATE, () -> x.price(99, 99));
-        checks.fails("override without a plan", Checks.STATE, () -> x.override(-1));
-        x.run();
-        checks.fails("priced 0 behind run", Checks.ARGUMENT, () -> x.priced(0));
-        checks.due("the plan stands", 50, x.worth());
-        for (int k : new int[] {-2, 5, Integer.MIN_VALUE, Integer.MAX_VALUE}) {
-            checks.fails("log " + k, Checks.INDEX, () -> x.log(k, 0));
-            checks.fails("log with a wrong what " + k, Checks.INDEX, () -> x.log(k, 5));
-            checks.fails("fuel " + k, Checks.INDEX, () -> x.fuel(k, 0));
-            checks.fails("fuel with a wrong what " + k, Checks.INDEX, () -> x.fuel(k, 3));
-            checks.fails("price of product " + k, Checks.INDEX, () -> x.price(k, 0));
-        }
-        checks.fails("price of product 2", Checks.INDEX, () -> x.price(2, 0));
-        for (int what : new int[] {-1, 5, Integer.MIN_VALUE, Integer.MAX_VALUE}) {
-            checks.fails("log what " + what, Checks.ARGUMENT, () -> x.log(0, what));
-            checks.fails("how many logs, what " + what, Checks.ARGUMENT, () -> x.log(NONE, what));
-            checks.fails("how many fuel, what " + what, Checks.ARGUMENT, () -> x.fuel(NONE, what));
-            checks.fails("price part " + what, Checks.INDEX, () -> x.price(0, what));
-        }
-        checks.due("how many logs, what 4", 5, x.log(NONE, 4));
-        checks.due("how many fuel rows, what 2", 0, x.fuel(NONE, 2));
-        checks.fails("fuel what 3", Checks.ARGUMENT, () -> x.fuel(NONE, 3));
-        checks.fails("price part 3", Checks.INDEX, () -> x.price(0, 3));
-        x.stem(11, 1, 0);
-        checks.fails("the plan is gone", Checks.STATE, x::worth);
-        x.run();
-        checks.due("fuel row", 10, x.fuel(0, 1));
-        checks.fails("fuel row, wrong what", Checks.ARGUMENT, () -> x.fuel(0, 3));
-    }
-
     private static void overrides() {
         BuckTables x = twoKinds();
         x.run();
@@ -461,7 +398,6 @@ public final class PlanTest {
         pricesThatSettle();
         earliestOfSeveral();
         burntLogs();
-        wrongCalls();
         overrides();
         overridesOfPriced();
         overrideForMore();
