@@ -1,8 +1,15 @@
 import java.util.ArrayList;
+import java.util.Arrays;
+import java.util.HashMap;
 import java.util.List;
+import java.util.Map;
 import java.util.Random;
+import java.util.TreeSet;
 
-/** Holds BuckTables against the naive one in runs of mixed calls, and against all plans there are of small stems. */
+/**
+ * Holds BuckTables against the naive one in runs of mixed calls and on objects as full as they can be, and against
+ * all plans there are of small stems.
+ */
 public final class OracleTest {
     private static final Checks checks = new Checks();
     private static final int[] EDGES = {
@@ -255,7 +262,7 @@ public final class OracleTest {
         return best;
     }
 
-    private void smallStems() {
+    private void tellSmallStems() {
         for (int s = 0; s < 2; s++) {
             if (s > 0) {
                 naive.stems();
@@ -269,16 +276,29 @@ public final class OracleTest {
             furthest = length;
             cut();
         }
+        int scale = new int[] {1, 1, 100, 700}[random.nextInt(4)];
         for (int p = 0; p < 3; p++) {
             int low = (1 + upTo(1)) * step;
             int high = low + upTo(2) * step;
             int sweep = 1 + upTo(2);
-            int worth = upTo(4);
+            int worth = upTo(4) * scale;
             same("product", () -> naive.product(low, high, 750 - sweep * 50, sweep, worth),
                     () -> x.product(low, high, 750 - sweep * 50, sweep, worth));
             tellOfProduct();
+            if (random.nextInt(3) > 0) {
+                limitOf(p, upTo(3));
+            }
         }
         tellOfAll();
+    }
+
+    private void limitOf(int product, int most) {
+        same("limit(" + product + ", " + most + ")", () -> bit(naive.limit(product, most)),
+                () -> bit(x.limit(product, most)));
+    }
+
+    private void smallStems() {
+        tellSmallStems();
         Naive.Way best = bestOfAll(naive);
         same("run() of small stems", () -> best.logs, x::run);
         same("worth() of small stems", () -> best.worth, x::worth);
@@ -300,11 +320,126 @@ public final class OracleTest {
         }
     }
 
+    /** For each number of logs of each product: what the ways of a stem with so many are worth at most. */
+    private static Map<List<Integer>, Long> mostByLogs(Naive n, int number) {
+        List<Naive.Way> ways = new ArrayList<>();
+        allWays(n, number, 0, new Naive.Way(), ways);
+        Map<List<Integer>, Long> most = new HashMap<>();
+        for (Naive.Way way : ways) {
+            int[] logs = new int[n.products.size()];
+            for (Naive.Piece piece : way.pieces) {
+                if (piece.product() >= 0) {
+                    logs[piece.product()]++;
+                }
+            }
+            most.merge(Arrays.stream(logs).boxed().toList(), way.worth, Math::max);
+        }
+        return most;
+    }
+
+    private static boolean limitsHold(Naive n, List<Integer> logs, List<Integer> more) {
+        for (int p = 0; p < n.products.size(); p++) {
+            long limit = n.products.get(p).limit;
+            if (limit >= 0 && logs.get(p) + more.get(p) > limit) {
+                return false;
+            }
+        }
+        return true;
+    }
+
+    /** What the plan that is worth most of all in which the limits hold is worth. */
+    private static long mostWithinLimits(Naive n) {
+        Map<List<Integer>, Long> second = mostByLogs(n, 1);
+        long most = 0;
+        for (Map.Entry<List<Integer>, Long> a : mostByLogs(n, 0).entrySet()) {
+            for (Map.Entry<List<Integer>, Long> b : second.entrySet()) {
+                if (limitsHold(n, a.getKey(), b.getKey())) {
+                    most = Math.max(most, a.getValue() + b.getValue());
+                }
+            }
+        }
+        return most;
+    }
+
+    /** What BOUND and greatest() are for: no plan in which the limits hold is worth more than they tell. */
+    private void boundOfSmallStems() {
+        tellSmallStems();
+        long most = mostWithinLimits(naive);
+        for (int rounds = 1; rounds <= 10; rounds++) {
+            String call = name + ": priced(" + rounds + ") of small stems, ";
+            x.priced(rounds);
+            checks.due(call + "bound " + x.bound() + " is not below " + most, true, x.bound() >= most);
+            checks.due(call + "worth " + x.worth() + " is not above " + most, true, x.worth() <= most);
+            if (x.greatest()) {
+                checks.due(call + "greatest", most, x.worth());
+            }
+            for (int p = 0; p < 3; p++) {
+                long limit = x.price(p, 2);
+                checks.due(call + "limit of " + p, true, limit == BuckTables.NONE || x.price(p, 1) <= limit);
+            }
+        }
+    }
+
+    private void fullStem() {
+        int length = longest * step + upTo(step - 1);
+        TreeSet<Integer> places = new TreeSet<>(List.of(0, length));
+        for (int i = 2; i < 60; i++) {
+            places.add(random.nextInt(3) == 0 ? upTo(longest) * step : upTo(length));
+        }
+        int thin = 900;
+        for (int at : places) {
+            thin = Math.max(0, thin - upTo(1 + 1000 / places.size()));
+            int t = thin;
+            int sweep = random.nextInt(8) == 0 ? upTo(20) : upTo(4);
+            same("stem(" + at + ", " + t + ", " + sweep + ")", () -> bit(naive.stem(at, t, sweep)),
+                    () -> bit(x.stem(at, t, sweep)));
+        }
+        furthest = length;
+        for (int i = upTo(20); i > 0; i--) {
+            fault();
+        }
+        for (int i = upTo(4); i > 0; i--) {
+            int at = upTo(longest) * step;
+            same("force(" + at + ")", () -> bit(naive.force(at)), () -> bit(x.force(at)));
+        }
+    }
+
+    /** Six stems and eight products, with points, faults, cuts, bars, limits and wishes. */
+    private void fullObject() {
+        for (int s = 0; s < 6; s++) {
+            if (s > 0) {
+                same("stems()", naive::stems, x::stems);
+            }
+            fullStem();
+        }
+        for (int p = 0; p < 8; p++) {
+            product();
+            limitOf(p, upTo(random.nextInt(3) == 0 ? 30 : 6));
+        }
+        for (int i = 0; i < 12; i++) {
+            tellOfProduct();
+        }
+        tellOfAll();
+        same("run()", naive::run, x::run);
+        lookAtAll();
+        for (int rounds : new int[] {1, 2 + upTo(7), 10}) {
+            same("priced(" + rounds + ")", () -> naive.priced(rounds), () -> x.priced(rounds));
+            lookAtAll();
+        }
+        int at = (1 + upTo(longest - 1)) * step;
+        same("override(" + at + ")", () -> naive.override(at), () -> x.override(at));
+        lookAtAll();
+    }
+
     public static void main(String[] args) {
         int runs = args.length > 0 ? Integer.parseInt(args[0]) : 400;
         for (int seed = 1; seed <= runs; seed++) {
             new OracleTest(seed).mixedCalls(30 + seed % 120);
             new OracleTest(seed + 1000000).smallStems();
+            new OracleTest(seed + 2000000).boundOfSmallStems();
+        }
+        for (int seed = 1; seed <= runs / 10; seed++) {
+            new OracleTest(seed + 3000000).fullObject();
         }
         checks.end();
     }
